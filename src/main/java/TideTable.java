@@ -778,7 +778,7 @@ public final class TideTable {
             int most = turn == 2 ? MOST_START : MOST_OF_TWO_FIGURES;
             int figure = code - '0';
             if (behind % 2 == 0) {
-                return 10 * figure <= most && 10 * figure + 9 >= least;
+                return 10 * figure <= most;
             }
             return within(10 * (codes[place - 1] - '0') + figure, least, most);
         }

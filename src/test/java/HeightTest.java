@@ -149,6 +149,14 @@ public final class HeightTest {
         TideTable none = Check.read("s5043021100");
         flat(none, 184, 145);
         CHECK.due("no low water with 145 flat ticks", none.tide(0, 1, 0, 0), TideTable.UNKNOWN);
+        // It follows 44 ticks later: its low water is at the last tick of day 0.
+        TideTable follows = Check.read("s5047031200,f004499");
+        CHECK.due("a low water at the last tick", follows.tide(1, 0, 1, 0), 143);
+        CHECK.due("a low water at the last tick is low", follows.tide(1, 0, 1, 1), 0);
+        TideTable storms = Check.read("t5010010000");
+        tideRow(storms, 0, 0, 0, 0);
+        tideRow(storms, 0, 1, 144, 1);
+        tideRow(storms, 0, 2, 288, 0);
         TideTable still = Check.read("p5000010000");
         CHECK.due("still water has no tides", still.tide(0, 0, 0, 0), TideTable.UNKNOWN);
     }
@@ -182,6 +190,12 @@ public final class HeightTest {
         gateRow(table, 9, 0, 1296, 1439);
         gateRow(table, 9, -2000, 1296, 1439);
         gateRow(table, 9, 4000);
+        // What another call left behind the day is no part of it.
+        table.tide(0, 0, 0, 0);
+        gateRow(table, 1, 501, 177, 207, 241, 271);
+        TideTable filled = Check.read(STEPS + ",p9900010000");
+        filled.leave(1, 1, 0, 1, 0);
+        gateRow(filled, 1, 501, 177, 207, 241, 271);
     }
 
     private static void dries() {

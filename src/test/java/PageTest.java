@@ -121,6 +121,13 @@ public final class PageTest {
         fault(longest + "," + longest + "," + longest + "," + longest, 95);
         fault(longest + "," + longest + "," + longest + "," + longest + "1", 95);
         fault("", 0);
+        TideTable again = Check.typed("pxxxxxxxxxxxx");
+        again.blank();
+        CHECK.due("fault() behind blank()", again.fault(), 0);
+        Check.type(again, port);
+        CHECK.due("fault() does not look behind the letters", again.fault(), 11);
+        CHECK.due("ports() does not look behind the letters", again.ports(), 1);
+        CHECK.due("it has one wave", again.port(0, 4), 1);
     }
 
     private static void portsAreRead() {

@@ -8,6 +8,7 @@ public final class SeenTest {
         asks();
         seen();
         forgotten();
+        forgottenByFour();
         draws();
         drawRefusals();
         CHECK.end();
@@ -88,6 +89,15 @@ public final class SeenTest {
         }
         CHECK.due("see behind forget()", table.see(2, 3, true), 1);
         CHECK.due("sorts of the new see", table.port(2, 5), 16);
+    }
+
+    private static void forgottenByFour() {
+        TideTable table = Check.read("p5000165000,f101050,f101050,f101050");
+        table.see(0, 3, true);
+        table.see(3, 3, true);
+        CHECK.due("forget() with four ports", table.forget(), 2);
+        CHECK.due("sorts of the first of four", table.port(0, 5), 31);
+        CHECK.due("sorts of the last of four", table.port(3, 5), 31);
     }
 
     private static long next(long seed) {

@@ -34,6 +34,7 @@ public final class StreamTest {
         CHECK.due("slack 143 behind", zero.slack(0, 1, 113), 256);
         CHECK.due("slack 144 behind", zero.slack(0, 1, 112), TideTable.NONE);
         CHECK.due("slack behind the stream of 0", zero.slack(0, 1, 257), TideTable.NONE);
+        CHECK.due("slack behind the stream of 0, the other way", zero.slack(1, 0, 257), TideTable.NONE);
         CHECK.due("slack between a port and itself", zero.slack(0, 0, 1439), 1439);
         TideTable cross = Check.read(SLOW + "," + STILL_510);
         CHECK.due("stream ahead of the turn", cross.stream(0, 1, 252), 2);
@@ -44,6 +45,11 @@ public final class StreamTest {
         CHECK.due("slack behind the turn", cross.slack(0, 1, 254), TideTable.NONE);
         CHECK.due("turn 143 behind", cross.slack(0, 1, 110), 253);
         CHECK.due("turn 144 behind", cross.slack(0, 1, 109), TideTable.NONE);
+        TideTable one = Check.read("p5000015400,p0000010000");
+        CHECK.due("stream of 1", one.stream(0, 1, 448), 1);
+        CHECK.due("stream of -1", one.stream(0, 1, 449), -1);
+        CHECK.due("slack from 1 to -1", one.slack(0, 1, 449), 449);
+        CHECK.due("slack from -1 to 1", one.slack(1, 0, 449), 449);
         TideTable late = Check.read(STEPS + "," + STILL);
         CHECK.due("slack beyond the last day", late.slack(0, 1, 1439), 1456);
         TideTable ahead = Check.read("p5000161047,p5000161048");
@@ -77,6 +83,10 @@ public final class StreamTest {
         // At tick 32 the stream is far below 0, and no way is lost by it.
         CHECK.due("stream against the trip", fast.stream(0, 1, 32) < -1000 ? 1 : 0, 1);
         CHECK.due("a trip that waits", fast.trip(0, 1, 24, 1), 28);
+        // Its stream is below 0 from tick 33 to 95; then it gets 1, 2, 3, 4, 5, 7, 8, 9 and so on far.
+        TideTable waits = Check.read("p5000085000," + STILL);
+        CHECK.due("a trip that waits for 63 ticks", waits.trip(0, 1, 33, 1), 87);
+        CHECK.due("a trip that waits behind a tick", waits.trip(0, 1, 32, 1), 88);
     }
 
     /** Ways of 0, 1 and 2 in a tick, so that one trip lasts 200 ticks and the next would last 201. */
@@ -111,6 +121,12 @@ public final class StreamTest {
         CHECK.due("leave at once", table.leave(2, 2, 3, 30, 500), 432);
         CHECK.due("leave at once for any need", table.leave(2, 2, 0, 30, -2000), 0);
         CHECK.due("leave for the greatest need", table.leave(2, 2, 9, 30, 4000), TideTable.NONE);
+        // It rises all the while, and a trip lasts ten ticks: the first tick at which it can leave is known.
+        TideTable rises = Check.read("p0000019932");
+        CHECK.due("leave at the last tick of a day", rises.leave(0, 0, 0, 30, rises.height(0, 153)), 143);
+        CHECK.due("leave behind the last tick", rises.leave(0, 0, 0, 30, rises.height(0, 154)), TideTable.NONE);
+        CHECK.due("leave at the first tick of the next", rises.leave(0, 0, 1, 30, rises.height(0, 154)), 144);
+        CHECK.due("it rises", rises.height(0, 154) > rises.height(0, 153) ? 1 : 0, 1);
         // The need is met from tick 144 on alone, ten ticks behind tick 134.
         TideTable last = Check.read(STILL + ",t5001010000");
         last.mark(1, 99);

@@ -99,6 +99,7 @@ public final class WholeTest {
         CHECK.due("count(3) of day 0 alone", after.count(3), 500);
         // The first and the last tick of the day count.
         CHECK.due("count(3) at tick 0", Check.read("p0000019900").count(3), 990);
+        CHECK.due("count(3) at tick 0 of port 1", Check.read("p0000010000,p0000019900").count(3), 990);
         TideTable rising = Check.read("p0000011032");
         CHECK.due("count(3) at tick 143", rising.count(3), rising.height(0, 143));
         CHECK.due("it is more than at tick 142", rising.height(0, 143) > rising.height(0, 142) ? 1 : 0, 1);
