@@ -128,6 +128,10 @@ public final class PageTest {
         CHECK.due("fault() does not look behind the letters", again.fault(), 11);
         CHECK.due("ports() does not look behind the letters", again.ports(), 1);
         CHECK.due("it has one wave", again.port(0, 4), 1);
+        Check.type(again, port + ",");
+        again.blank();
+        Check.type(again, port);
+        CHECK.due("ports() does not look at an older comma", again.ports(), 1);
     }
 
     private static void portsAreRead() {
