@@ -32,6 +32,10 @@ final class Check {
         }
     }
 
+    int asked() {
+        return asked;
+    }
+
     void end() {
         System.out.println(name + ": " + asked + " answers, " + wrong + " wrong");
         if (wrong != 0 || asked == 0) {
