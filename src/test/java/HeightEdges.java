@@ -41,6 +41,14 @@ final class HeightEdges {
         edge.due("round(49)", table.round(49), 98);
         edge.due("round(63)", table.round(63), 995);
         edge.due("round(64)", table.round(64), 1000);
+        edge.says(Edge.TERMS, "ROUND has 64 STEPS, ROUND[0] to ROUND[16] are "
+                + "1000, 995, 981, 957, 924, 882, 831, 773, 707, 634, 556, 471, 383, 290, 195, 98, 0;");
+        edge.row("round(i)", table::round,
+                1000, 995, 981, 957, 924, 882, 831, 773, 707, 634, 556, 471, 383, 290, 195, 98,
+                0, -98, -195, -290, -383, -471, -556, -634, -707, -773, -831, -882, -924, -957, -981, -995,
+                -1000, -995, -981, -957, -924, -882, -831, -773, -707, -634, -556, -471, -383, -290, -195, -98,
+                0, 98, 195, 290, 383, 471, 556, 634, 707, 773, 831, 882, 924, 957, 981, 995,
+                1000, TideTable.OUTSIDE);
         edge.says(9, "OUTSIDE: step (0 to 64).");
         for (int step : new int[] {-1, 65, -64, 128, Integer.MIN_VALUE, Integer.MAX_VALUE}) {
             edge.refused("round(" + step + ")", table, () -> table.round(step), TideTable.OUTSIDE);
@@ -220,6 +228,11 @@ final class HeightEdges {
         edge.due("the greatest mark", table.height(0, 144), 599);
         table.mark(0, 0);
         edge.due("the least mark", table.height(0, 144), 500);
+        // It falls from tick 256 of day 1 on, and from tick 320 of day 2 on: it keeps nothing, and has no sill.
+        TideTable falls = Check.read("t5099165000");
+        edge.row("falling on day 1", i -> falls.height(0, 256 + i), 1099, 1096, 1089);
+        edge.row("falling on day 2", i -> falls.height(0, 320 + i), 1000, 997, 990);
+        edge.due("low on day 2", falls.height(0, 352), 0);
         edge.says(Edge.TERMS, "a DAY has 144 of them; DAYS are numbered from 0.");
         // Day 10 is even: the storm of day 9 ends behind tick 1439, and the stream turns.
         TideTable ends = Check.read("p5100010000,t5020010000");

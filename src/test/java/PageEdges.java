@@ -279,6 +279,11 @@ final class PageEdges {
         edge.due("fault() where wrong letters were", older.fault(), 0);
         older.letter('p');
         edge.due("fault() ahead of older letters", older.fault(), 1);
+        TideTable comma = Check.typed(PORT + ",");
+        comma.blank();
+        Check.type(comma, PORT);
+        edge.due("fault() ahead of an older comma", comma.fault(), 11);
+        edge.due("ports() ahead of an older comma", comma.ports(), 1);
     }
 
     private void portsRead() {

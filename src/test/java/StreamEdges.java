@@ -81,6 +81,11 @@ final class StreamEdges {
         edge.due("to above, 144 behind", table.slack(1, 0, 109), NONE);
         edge.due("to below, 144 behind", table.slack(0, 1, 109), NONE);
         edge.due("behind the turn", table.slack(0, 1, 254), NONE);
+        TideTable one = Check.read("p5000015400,p0000010000");
+        edge.due("a stream of 1", one.stream(0, 1, 448), 1);
+        edge.due("a stream of -1", one.stream(0, 1, 449), -1);
+        edge.due("from 1 to -1", one.slack(0, 1, 449), 449);
+        edge.due("from -1 to 1", one.slack(1, 0, 449), 449);
         TideTable still = Check.read(STILL + ",p5100010000");
         edge.due("always below", still.slack(0, 1, 0), NONE);
         edge.due("always above", still.slack(1, 0, 0), NONE);

@@ -165,6 +165,10 @@ final class WholeEdges {
             edge.due("followers", table.count(2), port);
         }
         edge.due("their waves are counted", table.count(1), 12);
+        for (int kind : new int[] {0, 1, 2, 4}) {
+            table.be(3, kind);
+            edge.due("followers, with one of kind " + kind, table.count(2), 2);
+        }
         for (int left = 11; left >= 0; left--) {
             table.take(left / 3, 0);
             edge.due("waves of all", table.count(1), left);
@@ -193,6 +197,7 @@ final class WholeEdges {
     private void greatestHeights() {
         edge.says(30, "3 the greatest HEIGHT of any on DAY 0");
         edge.due("at tick 0", Check.read("p0000019900").count(3), 990);
+        edge.due("at tick 0 of port 1", Check.read(PORT + ",p0000019900").count(3), 990);
         // Speed 1 from the lowest water on: it rises up to tick 143, where it is -633, and behind it.
         edge.due("at tick 143, below 0", Check.read("p0000019932").count(3), -633);
         edge.due("at tick 143 of two ports below 0", Check.read("p0000019932,p0000019933").count(3), -556);
