@@ -50,7 +50,9 @@ public final class FaceTest {
         constants();
         methods();
         nested();
-        text(Files.readString(Path.of("src/main/java/TideTable.java")));
+        String source = Files.readString(Path.of("src/main/java/TideTable.java"));
+        text(source);
+        lengths(source);
         CHECK.end();
     }
 
@@ -102,17 +104,51 @@ public final class FaceTest {
         yes("it takes nothing", constructors[0].getParameterCount() == 0);
     }
 
+    private static int fieldsBesideConstants(Class<?> some) {
+        int fields = 0;
+        for (Field field : some.getDeclaredFields()) {
+            fields += Modifier.isStatic(field.getModifiers()) ? 0 : 1;
+        }
+        return fields;
+    }
+
     private static void nested() {
+        yes("some twelve classes at most", TideTable.class.getDeclaredClasses().length < 12);
+        yes("some twenty fields at most", fieldsBesideConstants(TideTable.class) <= 20);
         for (Class<?> inner : TideTable.class.getDeclaredClasses()) {
             yes(inner + " is static", Modifier.isStatic(inner.getModifiers()));
             yes(inner + " is not open", !Modifier.isPublic(inner.getModifiers()));
             for (Field field : inner.getDeclaredFields()) {
                 yes(field + " is no static state", !Modifier.isStatic(field.getModifiers()));
             }
+            yes(inner + " has some twenty fields at most", fieldsBesideConstants(inner) <= 20);
             for (Method method : inner.getDeclaredMethods()) {
                 yes(method + " takes at most seven", method.getParameterCount() <= 7);
+                yes(method + " bears no open name", !FACE.contains(" " + method.getName() + "("));
             }
         }
+    }
+
+    /** A method ends at the first brace that stands as far in as its own first line. */
+    private static void lengths(String source) {
+        String[] lines = source.split("\n");
+        int methods = 0;
+        for (int first = 0; first < lines.length; first++) {
+            Matcher head = Pattern.compile("((?: {4}){1,2})(?! )(?!.*\\bclass\\b)\\w.*\\).*\\{").matcher(lines[first]);
+            if (head.matches() && !lines[first].matches(" *(if|for|while|switch|else|do)\\b.*")) {
+                int last = first;
+                while (last < lines.length && !lines[last].equals(head.group(1) + "}")) {
+                    last++;
+                }
+                methods++;
+                yes(lines[first].strip() + " .. has some sixty lines at most", last - first < 60);
+            }
+        }
+        int due = TideTable.class.getDeclaredMethods().length;
+        for (Class<?> inner : TideTable.class.getDeclaredClasses()) {
+            due += inner.getDeclaredMethods().length;
+        }
+        yes("each of " + due + " methods is looked at: " + methods, methods >= due);
     }
 
     private static void text(String source) {
